@@ -150,6 +150,31 @@ public final class ModelTest {
         return below(8) == 0 ? joined.substring(0, below(joined.length() + 1)) : joined;
     }
 
+    /** A text whose grammar stays whole, with other names, numbers and turns, and with lines told twice. */
+    private String blundered(String text) {
+        List<String> lines = new ArrayList<>();
+        for (String line : text.split(";")) {
+            lines.add(line);
+            for (int i = below(12) == 0 ? 1 + below(20) : 0; i > 0; i--) {
+                lines.add(line.replaceFirst("(rule|ant) (r|a)", "$1 $2" + i));
+            }
+        }
+        List<String> words = new ArrayList<>();
+        for (String word : String.join(" ; ", lines).split(" ")) {
+            boolean changes = below(40) == 0;
+            if (changes && word.matches("[0-9]+")) {
+                words.add("" + below(80));
+            } else if (changes && word.matches("[ar][0-9]")) {
+                words.add(new String[] {"a", "r"}[below(2)] + below(7));
+            } else if (changes && word.matches("left|right|straight|back")) {
+                words.add(word + " left".repeat(below(4)));
+            } else {
+                words.add(word);
+            }
+        }
+        return String.join(" ", words) + ";";
+    }
+
     /** Every tenth of these lists is deep: a nest whose innermost token is around the depth 8. */
     private String deepList() {
         StringBuilder text = new StringBuilder("wash 1 to 2 when ");
@@ -166,7 +191,7 @@ public final class ModelTest {
         Model model = new Model();
         FlagAnts x = new FlagAnts();
         for (int i = 0; i < lists; i++) {
-            String text = i % 10 == 0 ? deepList() : scrambled(list(10));
+            String text = i % 10 == 0 ? deepList() : i % 2 == 0 ? blundered(list(5)) : scrambled(list(10));
             if (text.length() > 1980) {
                 text = text.substring(0, 1980);
             }
