@@ -791,7 +791,7 @@ public final class FlagAnts {
         }
 
         private boolean washLine() {
-            beginOrder();
+            takeOrderWord();
             if (kind() != Kind.NUMBER) {
                 return false;
             }
@@ -804,7 +804,7 @@ public final class FlagAnts {
         }
 
         private boolean faceLine() {
-            beginOrder();
+            takeOrderWord();
             if (kind() != Kind.NAME) {
                 return false;
             }
@@ -817,7 +817,7 @@ public final class FlagAnts {
         }
 
         private boolean haltLine() {
-            beginOrder();
+            takeOrderWord();
             if (kind() != Kind.NAME) {
                 return false;
             }
@@ -825,7 +825,7 @@ public final class FlagAnts {
             return take(Kind.WHEN) && test(0);
         }
 
-        private void beginOrder() {
+        private void takeOrderWord() {
             if (!draft.beginOrder(kind())) {
                 complain(4);
             }
@@ -1353,7 +1353,7 @@ public final class FlagAnts {
             int place = ant.stoneUnder();
             int colour = yard.stones[place];
             int turn = program.turnFor(ant.rule, colour);
-            yard.setStone(place, program.remainder(ant.rule, program.remainder(ant.rule, colour) + 1));
+            yard.setStone(place, program.remainder(ant.rule, colour + 1));
             ant.go(turn);
         }
 

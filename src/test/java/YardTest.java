@@ -145,7 +145,9 @@ public final class YardTest {
 
     private static void faces() {
         FlagAnts x = Check.taught("rule s straight straight; ant a of s at 0 0 faces north;");
-        x.pass(3);
+        x.pass(2);
+        Check.due("two steps are too short a path", 0, x.ant(0, 6));
+        x.pass(1);
         Check.due("period", 1, x.ant(0, 6));
         Check.due("face", 0, x.face(0, 0));
         Check.due("the path begins anew", 0, x.ant(0, 6));
