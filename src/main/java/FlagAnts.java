@@ -86,7 +86,7 @@ public final class FlagAnts {
         if (!isStone(column, row)) {
             throw new IndexOutOfBoundsException("no such stone");
         }
-        return yard.stones[row * SIZE + column];
+        return yard.colourAt(row * SIZE + column);
     }
 
     public int colour(int colour) throws IndexOutOfBoundsException {
@@ -127,7 +127,7 @@ public final class FlagAnts {
             throw new IllegalArgumentException("no such colour");
         }
         int place = row * SIZE + column;
-        int before = yard.stones[place];
+        int before = yard.colourAt(place);
         yard.setStone(place, colour);
         return before;
     }
@@ -257,7 +257,7 @@ public final class FlagAnts {
             }
         }
         for (int place = 0; place < STONES; place++) {
-            d = d * 31L + yard.stones[place];
+            d = d * 31L + yard.colourAt(place);
         }
         return d;
     }
@@ -406,9 +406,15 @@ public final class FlagAnts {
                 }
                 at = tape.skipBlanks(end);
             }
-            kinds[size] = at < tape.length ? Kind.BAD : Kind.END;
-            starts[size] = at;
-            values[size] = 0;
+            close(at);
+        }
+
+        private void close(int at) {
+            if (size < kinds.length) {
+                kinds[size] = at < tape.length ? Kind.BAD : Kind.END;
+                starts[size] = at;
+                values[size] = 0;
+            }
         }
 
         /** Reads one token and answers where it ends; where none can be read, that is where it would begin. */
@@ -660,18 +666,18 @@ public final class FlagAnts {
                 fits = fits && take(';');
             }
             if (!fits) {
-                error = 1;
-                errorPlace = tokens.starts[at];
+                error = 0;
+                complain(1);
             }
             return error;
         }
 
         private int kind() {
-            return tokens.kinds[at];
+            return at >= 0 && at < tokens.kinds.length ? tokens.kinds[at] : Kind.BAD;
         }
 
         private long value() {
-            return tokens.values[at];
+            return at >= 0 && at < tokens.values.length ? tokens.values[at] : 0;
         }
 
         private void advance() {
@@ -692,7 +698,7 @@ public final class FlagAnts {
         private void complain(int number) {
             if (error == 0) {
                 error = number;
-                errorPlace = tokens.starts[at];
+                errorPlace = at >= 0 && at < tokens.starts.length ? tokens.starts[at] : 0;
             }
         }
 
@@ -1220,11 +1226,15 @@ public final class FlagAnts {
             return ants[antCount > 0 ? antCount - 1 : 0];
         }
 
+        int colourAt(int place) {
+            return place >= 0 && place < STONES ? stones[place] : 0;
+        }
+
         void setStone(int place, int colour) {
-            if (place < 0 || place >= STONES || colour < 0 || colour >= COLOURS) {
+            int before = colourAt(place);
+            if (place < 0 || place >= STONES || !isColour(colour) || !isColour(before)) {
                 return;
             }
-            int before = stones[place];
             int row = place / SIZE;
             stones[place] = colour;
             colours[before]--;
@@ -1351,7 +1361,7 @@ public final class FlagAnts {
 
         private void moveAnt(Ant ant, Yard yard) {
             int place = ant.stoneUnder();
-            int colour = yard.stones[place];
+            int colour = yard.colourAt(place);
             int turn = program.turnFor(ant.rule, colour);
             yard.setStone(place, program.remainder(ant.rule, colour + 1));
             ant.go(turn);
