@@ -14,7 +14,8 @@ public final class CallEdgeTest {
         feed();
         trim();
         teachBeginsAnew();
-        noGhostsOfTheListBefore();
+        noGhostsOfTheListBefore(true);
+        noGhostsOfTheListBefore(false);
         count();
         countEachStep();
         countWashedByHand();
@@ -28,6 +29,7 @@ public final class CallEdgeTest {
         face();
         halt();
         place();
+        fiveHundredAndTwelveCalls();
         Check.end();
     }
 
@@ -139,7 +141,7 @@ public final class CallEdgeTest {
 
     /** Whatever was done before, an object that is taught a list goes on as a new one that is. */
     private static void teachBeginsAnew() {
-        for (String list : new String[] {"", SMALL, FULL, "paint 3 3 3;", "rule only left left;"}) {
+        for (String list : new String[] {"", SMALL, FULL, "paint 3 3 3;", "rule only left left;", longOrders()}) {
             FlagAnts x = full();
             x.place(5, 5, 6);
             x.pass(500);
@@ -151,13 +153,13 @@ public final class CallEdgeTest {
             x.wash(0, 5);
             x.halt(0);
             x.face(1, 2);
-            FlagAnts y = new FlagAnts();
             for (int i = 0; i < 3; i++) {
+                FlagAnts y = Check.taught(list);
                 Check.due("teach", 0, Check.teach(x, list));
-                Check.due("teach", 0, Check.teach(y, list));
+                Check.due("errorAt", -1, x.errorAt());
                 Check.due("steps", 0, x.count(0));
                 for (int steps : new int[] {1, 2, 60, 1000}) {
-                    Check.due("digest", y.digest(), x.digest());
+                    Check.same("behind the list " + list, x, y);
                     Check.due("found", y.found(), x.found());
                     Check.due("advise", y.advise(9), x.advise(9));
                     Check.due("foresee", y.foresee(300, 7), x.foresee(300, 7));
@@ -167,8 +169,18 @@ public final class CallEdgeTest {
         }
     }
 
+    /** A list of nearly as many tokens as there can be, with long tests whose last values decide. */
+    private static String longOrders() {
+        StringBuilder text = new StringBuilder("rule s straight straight; ant a of s at 3 3 faces east; ");
+        for (int i = 0; i < 4; i++) {
+            text.append("paint 5 ").append(20 + i).append(" 1; wash ").append(20 + i).append(" to ").append(20 + i)
+                .append(" when 0").append(" + 1".repeat(38)).append(" = step + ").append(30 - 7 * i).append("; ");
+        }
+        return text.toString();
+    }
+
     /** The ants and orders of the list before are gone, also where the new one has fewer. */
-    private static void noGhostsOfTheListBefore() {
+    private static void noGhostsOfTheListBefore(boolean placed) {
         String six = "rule s straight straight; ";
         for (int i = 0; i < 6; i++) {
             six += "ant a" + i + " of s at 10 10 faces east; wash 10 to 10 when step = " + i + "; ";
@@ -176,8 +188,11 @@ public final class CallEdgeTest {
         FlagAnts x = Check.taught(six);
         x.halt(4);
         x.pass(5);
-        Check.due("meetings", 5 * 10 , x.count(7));
-        Check.due("teach", 0, Check.teach(x, "rule r left left; ant b of r at 10 10 faces west; face b west when meets b;"));
+        Check.due("meetings", 5 * 10, x.count(7));
+        for (int ant = 0; placed && ant < 6; ant++) {
+            x.place(ant, 10, 10);
+        }
+        Check.due("teach", 0, Check.teach(x, "rule r left left; ant b of r at 10 10 faces west; halt b when meets b;"));
         Check.due("ants", 1, x.count(2));
         Check.due("ants that walk", 1, x.count(6));
         Check.due("found", -1, x.found());
@@ -235,6 +250,25 @@ public final class CallEdgeTest {
         x.paint(1, 1, 1);
         x.paint(1, 1, 0);
         Check.due("painting is no washing", 3, x.count(8));
+    }
+
+    /** As many steps as an object can make in its calls. */
+    private static void fiveHundredAndTwelveCalls() {
+        StringBuilder text = new StringBuilder("rule s straight straight;");
+        for (int i = 0; i < 6; i++) {
+            text.append("ant a").append(i).append(" of s at 0 9 faces east;");
+        }
+        FlagAnts x = Check.taught(text.append("wash 0 to 9 when step / 2 * 2 = step;").toString());
+        for (int i = 1; i <= 495; i++) {
+            x.pass(1000);
+        }
+        Check.due("steps", 495000, x.count(0));
+        Check.due("steps of an ant", 495000, x.ant(5, 5));
+        Check.due("column", 495000 % 64, x.ant(5, 1));
+        Check.due("meetings", 15 * 495000, x.count(7));
+        Check.due("highway", 1, x.ant(0, 6));
+        Check.due("washed", 0, x.count(8));
+        Check.due("orders carried out", 0, x.count(9));
     }
 
     private static void stone() {

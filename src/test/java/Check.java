@@ -100,6 +100,18 @@ final class Check {
         error(marked.substring(0, place) + marked.substring(place + 1), error, place);
     }
 
+    /** All that two objects tell is the same, but for errorAt. */
+    static void same(String what, FlagAnts x, FlagAnts y) {
+        due("digest " + what, y.digest(), x.digest());
+        due("mean " + what, y.mean(), x.mean());
+        for (int colour = 0; colour <= 5; colour++) {
+            due("colour(" + colour + ") " + what, y.colour(colour), x.colour(colour));
+        }
+        for (int row = 0; row < 64; row++) {
+            due("row(" + row + ") " + what, y.row(row), x.row(row));
+        }
+    }
+
     static void end() {
         System.out.println(asked + " asked, " + wrong + " wrong");
         if (wrong > 0) {

@@ -279,8 +279,9 @@ public final class ErrorEdgeTest {
         for (int i = 0; i < 36; i++) {
             int error = Check.teach(x, wrong[i % wrong.length]);
             Check.due("error of list " + i % wrong.length, i % 6 == 5 ? 1 : i % 6 + 1, error);
+            Check.same("behind an error", x, y);
             Check.due("pass", y.pass(1), x.pass(1));
-            Check.due("digest", y.digest(), x.digest());
+            Check.same("behind a step", x, y);
         }
         Check.due("steps", 36, x.count(0));
         Check.due("orders were carried out", 1, y.count(9) >= 3 ? 1 : 0);

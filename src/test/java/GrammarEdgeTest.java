@@ -26,6 +26,7 @@ public final class GrammarEdgeTest {
         sums();
         unclosedGroups();
         deepest();
+        deepestInEachOrder();
         deepestOfTwoKinds();
         depthEndsBehind();
         depthEndsBehindWhatIsTurned();
@@ -185,6 +186,17 @@ public final class GrammarEdgeTest {
         for (String[] nest : TEST_NESTS) {
             nested("wash 1 to 2 when ", nest, 8, "1 = 1", ";");
             nested("wash 1 to 2 when 1 = 1 or 1 = 1 and ", nest, 8, "1 = 1", ";");
+        }
+    }
+
+    private static void deepestInEachOrder() {
+        for (String order : new String[] {"wash 1 to 2", "face a west", "halt a", "walk a"}) {
+            for (String[] nest : VALUE_NESTS) {
+                nested(ANT + order + " when ", nest, 8, "1", " = 1;");
+            }
+            for (String[] nest : TEST_NESTS) {
+                nested(ANT + order + " when ", nest, 8, "meets a", ";");
+            }
         }
     }
 

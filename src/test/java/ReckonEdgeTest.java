@@ -16,7 +16,10 @@ public final class ReckonEdgeTest {
         minAndMax();
         comparisons();
         weakerSignsBindLess();
+        deepestSums();
+        deepestTests();
         andBindsMoreThanOr();
+        eachKindOfTestWithEach();
         notBindsMost();
         stepIsTheNumberOfSteps();
         darkCountsAllColoursButZero();
@@ -174,6 +177,36 @@ public final class ReckonEdgeTest {
         dueSum("-max(1, 2) + row(0) * 2", 4);
     }
 
+    /** At the greatest depth the most values wait for their other side. */
+    private static void deepestSums() {
+        String sum = "3";
+        int value = 3;
+        for (int n = 1; n <= 8; n++) {
+            sum = n + " - 2 * min(7, " + sum + ")";
+            value = n - 2 * Math.min(7, value);
+            dueSum(sum, value);
+        }
+        dueTest("1 = 2 or 1 = 1 and " + written(value) + " = 0 + 1 * " + sum, true);
+        dueTest("1 = 2 or 1 = 1 and " + written(value + 1) + " = 0 + 1 * " + sum, false);
+    }
+
+    private static void deepestTests() {
+        for (String[] inmost : new String[][] {{"1 = 1", "1"}, {"1 = 2", ""}, {"2 - 1 * 1 >= 0 + 1", "1"}}) {
+            String test = inmost[0];
+            for (int n = 1; n <= 8; n++) {
+                test = "1 = 2 or 1 = 1 and [" + test + "] and 2 = 2";
+                dueTest(test, !inmost[1].isEmpty());
+            }
+            String turned = inmost[0];
+            boolean holds = !inmost[1].isEmpty();
+            for (int n = 1; n <= 4; n++) {
+                turned = "1 = 1 and not [" + turned + "] or 2 = 1";
+                holds = !holds;
+                dueTest(turned, holds);
+            }
+        }
+    }
+
     private static void andBindsMoreThanOr() {
         String[] truth = {"1 = 2", "1 = 1"};
         for (int bits = 0; bits < 8; bits++) {
@@ -190,6 +223,29 @@ public final class ReckonEdgeTest {
             dueTest(a + " and " + b + " and " + c, p && q && r);
             dueTest(a + " or " + b + " or " + c, p || q || r);
         }
+    }
+
+    /** Whatever kind of test it is that holds, it holds with others as well as alone. */
+    private static void eachKindOfTestWithEach() {
+        String[] holding = {"1 < 2", "2 > 1", "1 = 1", "1 <= 2", "2 >= 1", "not 1 = 2", "[1 = 1]", "meets a", "halted b",
+            "not meets c", "not halted a", "not not meets b", "not [1 = 2 and 1 = 1]", "[1 = 2 or halted b]"};
+        for (String left : holding) {
+            for (String right : holding) {
+                dueCarriedOut(left + " and " + right, 1);
+                dueCarriedOut(left + " or " + right, 1);
+                dueCarriedOut("not [" + left + "] or " + right, 1);
+                dueCarriedOut("not [" + left + "] and " + right, 0);
+                dueCarriedOut("not [" + left + " and " + right + "]", 0);
+                dueCarriedOut("not [" + left + " or " + right + "]", 0);
+            }
+        }
+    }
+
+    private static void dueCarriedOut(String test, int times) {
+        FlagAnts x = Check.taught(THREE + "paint 63 9 1; wash 9 to 9 when " + test + ";");
+        x.halt(1);
+        x.pass(1);
+        Check.due(test, times, x.count(9));
     }
 
     private static void notBindsMost() {

@@ -216,15 +216,17 @@ public final class TokenEdgeTest {
 
     /** Two names that differ in one byte are two names, wherever it is. */
     private static void tenBytesTellNamesApart() {
-        String name = "abcdefghij";
+        String name = "mnopqrstuv";
         for (int place = 0; place < 10; place++) {
-            for (String sign : place == 0 ? new String[] {"b", "z"} : new String[] {"a", "z", "0", "9"}) {
+            StringBuilder text = new StringBuilder("rule " + name + " left left; ");
+            String signs = place == 0 ? "abyz" : "az09";
+            for (char sign : signs.toCharArray()) {
+                text.append("rule ").append(name, 0, place).append(sign).append(name.substring(place + 1)).append(" back back; ");
+            }
+            for (char sign : signs.toCharArray()) {
                 String other = name.substring(0, place) + sign + name.substring(place + 1);
-                if (!other.equals(name)) {
-                    FlagAnts x = Check.taught("rule " + name + " left left; rule " + other + " back back; ant a of " + other
-                        + " at 1 1 faces west;");
-                    Check.due("rule of the ant", 1, x.ant(0, 0));
-                }
+                FlagAnts x = Check.taught(text + "ant a of " + other + " at 1 1 faces west;");
+                Check.due("rule of the ant", 1 + signs.indexOf(sign), x.ant(0, 0));
             }
         }
         Check.taught("rule a left left; rule aa left left; rule a0 left left; rule b left left; rule aaa left left;");
