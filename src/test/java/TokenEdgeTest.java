@@ -17,6 +17,7 @@ public final class TokenEdgeTest {
         numberOfSixDigits();
         keywordsAreNoNames();
         tenBytesTellNamesApart();
+        shortNamesAreToldApart();
         Check.end();
     }
 
@@ -231,5 +232,23 @@ public final class TokenEdgeTest {
         }
         Check.taught("rule a left left; rule aa left left; rule a0 left left; rule b left left; rule aaa left left;");
         Check.taught("rule a0 left left; rule a00 left left; rule a left left; rule j left left; rule a9 left left;");
+    }
+
+    /** Names that differ in more than one byte, by letters and digits, are not taken for one another either. */
+    private static void shortNamesAreToldApart() {
+        String signs = "abcdefghijklmnopqrstuvwxyz0123456789";
+        FlagAnts x = new FlagAnts();
+        for (char first = 'a'; first <= 'h'; first++) {
+            for (char digit = '0'; digit <= '9'; digit++) {
+                for (int other = 0; other < 26 * 36; other++) {
+                    String name = "" + first + digit;
+                    String next = "" + signs.charAt(other / 36) + signs.charAt(other % 36);
+                    if (!name.equals(next) && !(" " + KEYWORDS + " ").contains(" " + next + " ")) {
+                        String text = "rule " + name + " left left;rule " + next + " back back;";
+                        Check.due("teach of " + text, 0, Check.teach(x, text));
+                    }
+                }
+            }
+        }
     }
 }
